@@ -375,6 +375,7 @@ public final class HouseCalendarTest {
         fault("rank ;", 5);
         fault("rank kin;", 5);
         fault("rank kinds;", 5);
+        fault("rank kindz;", 5);
         fault("rank Kind;", 5);
         fault("rank 12345;", 5);
         fault("rank 00001;", 5);
@@ -401,6 +402,19 @@ public final class HouseCalendarTest {
         due("NAME and KEY", read(new HouseCalendar(), "rank membersor 1;may 1;pass 1;quorum 1;"), 1);
         due("NUMBER and KEY", read(new HouseCalendar(), "rank1or2;may1;pass1;quorum1;"), 1);
         nesting();
+        afterFaults();
+    }
+
+    /** A FAULT leaves nothing behind, however much was read ahead of it. */
+    static void afterFaults() {
+        HouseCalendar x = house(1);
+        StringBuilder ones = new StringBuilder("rank ((((1");
+        while (ones.length() < 190) ones.append("+1");
+        for (int i = 0; i < 5; i++) due("a FAULT", read(x, ones + ";"), -100 - ones.length());
+        String sum = ones.substring(0, 150).replace("((((", "");
+        due("text", read(x, sum + ";may 2;pass 3;quorum (((((4)))));"), 1);
+        due("all of it", x.says(1, 0, 0, 0, 0, 0), (sum.length() - 4) / 2);
+        due("the last part", x.says(1, 3, 0, 0, 0, 0), 4);
     }
 
     static void nesting() {
