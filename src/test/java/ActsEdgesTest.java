@@ -1,7 +1,5 @@
 /** The edges of promises 20 to 27, and of "Terms" 2 and 4: MOVING, THE PILE, MINUTES, what a change does to others, and a VOTE. */
-public final class ActsEdgesTest {
-    static final int NONE = Edges.NONE, BAD = Edges.BAD, STATE = Edges.STATE, FULL = Edges.FULL;
-
+public final class ActsEdgesTest extends Edges {
     // The rank grows with the KIND and, of like ones, with the mover's PARTY; BACK may not be moved.
     static final String LADDER = "rule rank 8*kind+party;may not kind=5;pass no<yes;quorum 1; / ";
     // Any MOTION may come onto any other, as far as its mover's PARTY is greater.
@@ -9,13 +7,6 @@ public final class ActsEdgesTest {
     // THE PILE is full.
     static final String EIGHT = "house 4 / " + LADDER + "up 1 2 / act 0 3 0 0 / act 1 0 0 0 / act 1 1 0 0 / act 1 2 0 0 / act 1 3 0 0"
         + " / act 2 0 0 5 / act 3 0 0 5 / act 4 0 0 0 / ";
-
-    static void edge(String sentence, String calls, long want) { Edges.edge(sentence, calls, want); }
-    static void edges(String sentence, String calls, long want, String... values) { Edges.edges(sentence, calls, want, values); }
-    static void refused(String sentence, String calls, long want, String... values) {
-        if (values.length == 0) Edges.refused(sentence, calls, want);
-        else Edges.refused(sentence, calls, want, values);
-    }
 
     /** act() is refused, and why() tells the same of these numbers. */
     static void hindered(String sentence, String calls, String motion, int why, String... values) {
@@ -33,16 +24,16 @@ public final class ActsEdgesTest {
 
     static void numbers() {
         String up = "house 2 / up 7 8 / act 0 0 0 0 / ";
-        hindered("20: no such KIND", "house 2 / up 7 8 / ", "# 0 0 1", BAD, Edges.outside(7));
-        hindered("20: no such MEMBER", "house 2 / up 7 8 / ", "0 # 0 0", BAD, Edges.outside(2));
+        hindered("20: no such KIND", "house 2 / up 7 8 / ", "# 0 0 1", BAD, outside(7));
+        hindered("20: no such MEMBER", "house 2 / up 7 8 / ", "0 # 0 0", BAD, outside(2));
         hindered("20: no such MEMBER, of each KIND", up, "# 2 0 1", BAD, "0", "1", "2", "3", "4", "5", "6");
         hindered("20: no such WORD", up, "2 0 0 #", BAD, "low", "-1", "0", "61", "high");
         hindered("20: no such WORD", up, "3 0 0 #", BAD, "low", "-1", "0", "61", "high");
-        hindered("20: no such TEXT", "house 2 / read rank 1;may 1;pass 1;quorum 1; / ", "6 0 0 #", BAD, Edges.outside(2));
+        hindered("20: no such TEXT", "house 2 / read rank 1;may 1;pass 1;quorum 1; / ", "6 0 0 #", BAD, outside(2));
         hindered("20: no such TEXT, by a FAULT", "house 2 / read rank 1 / ", "6 0 0 1", BAD);
-        hindered("20: AMEND: no such SECTION", up, "1 0 # 0", BAD, Edges.outside(2));
-        hindered("20: PUT: no such SECTION", up, "2 0 # 7", BAD, Edges.outside(3));
-        hindered("20: REPLACE: no such SECTION", up, "3 0 # 7", BAD, Edges.outside(2));
+        hindered("20: AMEND: no such SECTION", up, "1 0 # 0", BAD, outside(2));
+        hindered("20: PUT: no such SECTION", up, "2 0 # 7", BAD, outside(3));
+        hindered("20: REPLACE: no such SECTION", up, "3 0 # 7", BAD, outside(2));
         moved("20: AMEND: 0 .. SECTIONS less 1", up, "1 1 # 0", 2, "0", "1");
         moved("20: PUT: as many as these, too", up, "2 1 # 7", 2, "0", "1", "2");
         moved("20: REPLACE: 0 .. SECTIONS less 1", up, "3 1 # 7", 2, "0", "1");
@@ -62,11 +53,11 @@ public final class ActsEdgesTest {
         hindered("20: a SECTION is looked at only if a BILL is UP", none, "2 0 # 1", 1, "low", "-1", "0", "high");
         hindered("20: a WORD is looked at, also if no BILL is UP", none, "2 0 0 #", BAD, "0", "61");
         hindered("20: a WORD is looked at, also if no BILL is UP", none, "3 0 0 #", BAD, "0", "61");
-        moved("20: MOTION: others do not matter", "house 2 / up 7 / ", "0 0 # #", 1, Edges.outside(61));
-        moved("20: AMEND: others do not matter", up, "1 0 0 #", 2, Edges.outside(61));
-        moved("20: TABLE: others do not matter", up, "4 0 # #", 2, Edges.outside(61));
-        moved("20: BACK: others do not matter", up, "5 0 # #", 2, Edges.outside(61));
-        moved("20: RULE: others do not matter", none, "6 0 # 0", 1, Edges.outside(61));
+        moved("20: MOTION: others do not matter", "house 2 / up 7 / ", "0 0 # #", 1, outside(61));
+        moved("20: AMEND: others do not matter", up, "1 0 0 #", 2, outside(61));
+        moved("20: TABLE: others do not matter", up, "4 0 # #", 2, outside(61));
+        moved("20: BACK: others do not matter", up, "5 0 # #", 2, outside(61));
+        moved("20: RULE: others do not matter", none, "6 0 # 0", 1, outside(61));
     }
 
     static void badAhead() {
@@ -339,8 +330,8 @@ public final class ActsEdgesTest {
     static void voted() {
         edges("23: ahead of any", "voted #", 0, "0", "1", "3");
         edge("23: NONE ahead of any", "voted 2", NONE);
-        refused("23: no such what", "voted #", BAD, Edges.outside(4));
-        refused("23: no such what", "house 1 / act 6 0 0 0 / vote / voted #", BAD, Edges.outside(4));
+        refused("23: no such what", "voted #", BAD, outside(4));
+        refused("23: no such what", "house 1 / act 6 0 0 0 / vote / voted #", BAD, outside(4));
         String one = "house 3 / ask 0 1 / ask 1 1 / ask 2 2 / act 6 0 0 0 / vote / ";
         edge("23: 0 yes", one + "voted 0", 2);
         edge("23: 1 no", one + "voted 1", 1);
@@ -354,14 +345,16 @@ public final class ActsEdgesTest {
         edges("23: each KIND", "house 1 / up 7 / act 0 0 0 0 / act # 0 0 1 / vote / voted 2", 5, "5");
         edge("23: foresee() is no vote()", "house 1 / up 7 / tell 1 0 0 / ask 0 1 / foresee 0 0 / voted 2", NONE);
         edge("23: best() is no vote()", one + "up 7 / tell 1 0 0 / best 0 / voted 2", 6);
+        edge("23: 1 of a vote without no, behind one with", "house 2 / act 6 0 0 0 / vote / asks 1 / act 6 0 0 0 / vote / voted 1", 0);
+        edge("23: 0 of a vote without yes, behind one with", "house 2 / act 6 0 0 0 / vote / asks 2 / act 6 0 0 0 / vote / voted 0", 0);
         edge("23: 0 of a vote without yes", "house 2 / act 6 1 0 0 / asks 2 / vote / voted 0", 0);
     }
 
     static void would() {
         refused("24: THE PILE is empty", "house 2 / up 7 / would 0", NONE);
         refused("24: THE PILE is empty again", "house 2 / up 7 / act 0 0 0 0 / yield / would 0", NONE);
-        refused("24: no such MEMBER", "house 2 / up 7 / act 0 0 0 0 / would #", BAD, Edges.outside(2));
-        refused("24: no such MEMBER, THE PILE is empty", "house 2 / would #", BAD, Edges.outside(2));
+        refused("24: no such MEMBER", "house 2 / up 7 / act 0 0 0 0 / would #", BAD, outside(2));
+        refused("24: no such MEMBER, THE PILE is empty", "house 2 / would #", BAD, outside(2));
         edge("24: 0, neither", "house 2 / up 7 / act 0 0 0 0 / would 1", 0);
         edge("24: on THE TOP", "house 2 / up 7 / like 0 7 5 / act 0 0 0 0 / act 4 0 0 0 / would 0", 2);
         edge("24: now", "house 2 / up 7 / act 0 0 0 0 / like 1 7 5 / would 1", 1);
@@ -372,10 +365,10 @@ public final class ActsEdgesTest {
         String six = "house 3 / up 7 8 / act 0 2 1 5 / act 1 1 1 5 / act 2 0 2 5 / act 3 2 0 6 / act 4 2 0 7 / act 5 1 0 7 / motion ";
         int[][] want = {{0, 2, NONE, NONE, 0}, {1, 1, 1, NONE, 1}, {2, 0, 2, 5, 2}, {3, 2, 0, 6, 3}, {4, 2, NONE, NONE, 4}, {5, 1, NONE, NONE, 5}};
         for (int i = 0; i < want.length; i++) for (int w = 0; w < 5; w++) edge("25: MOTION " + i + ", " + w, six + i + " " + w, want[i][w]);
-        refused("25: no such MOTION", six + "# 0", -100000, Edges.outside(6));
-        refused("25: no such what", six + "0 #", -100000, Edges.outside(5));
-        refused("25: no such MOTION: THE PILE is empty", "motion # 0", -100000, Edges.outside(0));
-        refused("25: no such MOTION: THE PILE is full", EIGHT + "motion # 0", -100000, Edges.outside(8));
+        refused("25: no such MOTION", six + "# 0", -100000, outside(6));
+        refused("25: no such what", six + "0 #", -100000, outside(5));
+        refused("25: no such MOTION: THE PILE is empty", "motion # 0", -100000, outside(0));
+        refused("25: no such MOTION: THE PILE is full", EIGHT + "motion # 0", -100000, outside(8));
         edge("25: the 8th", EIGHT + "motion 7 0", 4);
         edge("25: a RULE: its TEXT", "house 1 / read rank 1;may 1;pass 1;quorum 1; / act 6 0 5 1 / motion 0 3", 1);
         edge("25: a RULE: TEXT 0", "house 1 / act 6 0 5 0 / motion 0 3", 0);
@@ -405,6 +398,9 @@ public final class ActsEdgesTest {
         edge("27: those TOLD stay", "house 1 / up 7 / tell 1 0 0 / day / count 10", 1);
         edge("27: the BILL stays UP", "up 7 / day / count 8", 0);
         edge("27: as many DAYS as calls", "512*day", 512);
+        late("Terms: DAYS are 0 .. 999", "999*day", 999);
+        lateRefused("27: FULL: 999", "1000*day", FULL);
+        lateRefused("27: FULL: THE MINUTE stays, too", "house 1 / 999*day / spend 3 / day", FULL);
     }
 
     public static void main(String[] args) {
@@ -424,6 +420,6 @@ public final class ActsEdgesTest {
         motion();
         yielded();
         day();
-        Edges.end("ActsEdgesTest");
+        end("ActsEdgesTest");
     }
 }

@@ -1,7 +1,7 @@
 import java.util.*;
 
 /** Tests of one edge each: a run of calls on a new object, and the answer that is due at the last one. */
-final class Edges {
+class Edges {
     static final int NONE = HouseCalendar.NONE, BAD = HouseCalendar.BAD, STATE = HouseCalendar.STATE, FULL = HouseCalendar.FULL;
     static final long NO = HouseCalendar.NO;
     static final String[] FAR = {"low", "-1", "high"};
@@ -14,10 +14,15 @@ final class Edges {
 
     /** The last call's answer. */
     static void edge(String sentence, String calls, long want) {
-        List<String> lines = Run.of(calls);
+        int size = Run.of(calls).size();
+        if (size > MOST_CALLS) fail(sentence, calls, "has " + size + " calls");
+        late(sentence, calls, want);
+    }
+
+    /** The last call's answer, for the edges that no shorter run comes to. */
+    static void late(String sentence, String calls, long want) {
         tests++;
-        if (lines.size() > MOST_CALLS) fail(sentence, calls, "has " + lines.size() + " calls");
-        long got = Run.all(new HouseCalendar(), lines);
+        long got = Run.all(new HouseCalendar(), Run.of(calls));
         if (got != want) fail(sentence, calls, "answered " + got + ", due is " + want);
     }
 
@@ -26,16 +31,24 @@ final class Edges {
         for (String value : values) edge(sentence, calls.replace("#", value), want);
     }
 
-    /** The last call is refused so, and has changed nothing: an object without it answers as one with it does. */
-    static void refused(String sentence, String calls, long want) {
-        edge(sentence, calls, want);
+    /** The last call is refused so, for each value in the place of #, and has changed nothing: an object without it answers as one with it does. */
+    static void refused(String sentence, String calls, long want, String... values) {
+        for (String value : values.length == 0 ? new String[]{"#"} : values) {
+            String run = calls.replace("#", value);
+            edge(sentence, run, want);
+            unchanged(sentence, run);
+        }
+    }
+
+    static void lateRefused(String sentence, String calls, long want) {
+        late(sentence, calls, want);
+        unchanged(sentence, calls);
+    }
+
+    private static void unchanged(String sentence, String calls) {
         List<String> with = Run.of(calls);
         List<String> without = with.subList(0, with.size() - 1);
         for (List<String> sight : SIGHTS) same(sentence, calls, without, with, sight);
-    }
-
-    static void refused(String sentence, String calls, long want, String... values) {
-        for (String value : values) refused(sentence, calls.replace("#", value), want);
     }
 
     /** Numbers that are far outside, -1, and one more. */

@@ -1,15 +1,5 @@
 /** The edges of promises 28 to 33, and of "Terms" 5: what is TOLD, ORDERS, THE BEST ORDER, and TWO BILLS brought to one. */
-public final class ForeseenEdgesTest {
-    static final int NONE = Edges.NONE, BAD = Edges.BAD, STATE = Edges.STATE, FULL = Edges.FULL;
-    static final long NO = Edges.NO;
-
-    static void edge(String sentence, String calls, long want) { Edges.edge(sentence, calls, want); }
-    static void edges(String sentence, String calls, long want, String... values) { Edges.edges(sentence, calls, want, values); }
-    static void refused(String sentence, String calls, long want, String... values) {
-        if (values.length == 0) Edges.refused(sentence, calls, want);
-        else Edges.refused(sentence, calls, want, values);
-    }
-
+public final class ForeseenEdgesTest extends Edges {
     /** The number of an ORDER. */
     static int order(int... ones) {
         int sum = 0;
@@ -25,9 +15,9 @@ public final class ForeseenEdgesTest {
         refused("28: no such KIND", up + "tell # 0 1", BAD, "low", "-1", "0", "4", "5", "6", "7", "high");
         refused("28: no such WORD", up + "tell 2 0 #", BAD, "low", "-1", "0", "61", "high");
         refused("28: no such WORD", up + "tell 3 0 #", BAD, "low", "-1", "0", "61", "high");
-        refused("28: AMEND: no such SECTION", up + "tell 1 # 1", BAD, Edges.outside(2));
-        refused("28: PUT: no such SECTION", up + "tell 2 # 1", BAD, Edges.outside(3));
-        refused("28: REPLACE: no such SECTION", up + "tell 3 # 1", BAD, Edges.outside(2));
+        refused("28: AMEND: no such SECTION", up + "tell 1 # 1", BAD, outside(2));
+        refused("28: PUT: no such SECTION", up + "tell 2 # 1", BAD, outside(3));
+        refused("28: REPLACE: no such SECTION", up + "tell 3 # 1", BAD, outside(2));
         edges("28: AMEND: 0 .. SECTIONS less 1", up + "tell 1 # 1", 1, "0", "1");
         edges("28: PUT: as many as these, too", up + "tell 2 # 1", 1, "0", "2");
         edges("28: REPLACE: 0 .. SECTIONS less 1", up + "tell 3 # 1", 1, "0", "1");
@@ -68,7 +58,7 @@ public final class ForeseenEdgesTest {
         String up = "house 1 / up 7 8 / like 0 7 4 / like 0 8 -1 / ";
         edge("29: none TOLD: what the BILL is worth", up + "foresee 0 0", 3);
         refused("29: none TOLD: no such order", up + "foresee # 0", NO, "low", "-1", "1", "6", "high");
-        refused("29: no such MEMBER", up + "foresee 0 #", NO, Edges.outside(1));
+        refused("29: no such MEMBER", up + "foresee 0 #", NO, outside(1));
         refused("29: no BILL is UP", "house 1 / draft 7 / report 0 / foresee 0 0", NO);
         refused("29: no BILL is UP any more", up + "tell 1 0 0 / act 0 0 0 0 / vote / foresee 0 0", NO);
         edge("29: one TOLD", up + "tell 1 1 0 / foresee 0 0", 4);
@@ -137,19 +127,25 @@ public final class ForeseenEdgesTest {
         edge("5: a BILL of 10 takes no PUT", "house 1 / up 1 2 3 4 5 6 7 8 9 10 / like 0 50 1 / ask 0 1 / tell 2 10 50 / foresee 0 0", 0);
         edge("5: the BILL has 10 when the second one comes", "house 1 / up 1 2 3 4 5 6 7 8 9 / like 0 50 1 / 2*tell 2 9 50 / foresee 6 0", 1);
         edge("5: the BILL has 9 again", "house 1 / up 1 2 3 4 5 6 7 8 9 10 / like 0 50 1 / ask 0 1 / tell 1 0 0 / tell 2 10 50 / foresee 6 0", 1);
+        edge("5: a PUT that is not done moves none", "house 1 / up 1 2 3 4 5 6 7 8 9 10 / like 0 10 5 / ask 0 1 / tell 2 0 50 / tell 1 9 0 / foresee 6 0", 0);
+        edge("5: a GONE one moves none", "house 1 / up 1 2 3 / like 0 2 5 / like 0 3 1 / ask 0 1 / 2*tell 1 0 0 / tell 1 2 0 / foresee " + order(0, 1, 2) + " 0", 5);
+        edge("5: each vote counts its own yes", "house 2 / up 7 / like 0 9 1 / like 1 9 1 / like 1 8 1 / tell 3 0 9 / tell 3 0 8 / foresee 6 0", 1);
+        edge("5: each vote counts its own no", "house 2 / up 7 / like 0 9 5 / like 1 9 -1 / like 0 8 3 / tell 3 0 9 / tell 3 0 8 / foresee 6 0", 3);
         edge("5: five PUTS", "house 1 / up 1 2 3 4 5 / like 0 50 9 / 5*tell 2 5 50 / foresee " + order(0, 1, 2, 3, 4) + " 0", 45);
         edge("5: five AMENDS of all", "house 1 / up 7 7 7 7 7 / like 0 7 -9 / tell 1 0 0 / tell 1 1 0 / tell 1 2 0 / tell 1 3 0 / tell 1 4 0 / foresee " + order(4, 0, 3, 1, 2) + " 0", 0);
     }
 
     static void best() {
-        refused("30: no such MEMBER", "house 2 / up 7 / tell 1 0 0 / best #", BAD, Edges.outside(2));
+        refused("30: no such MEMBER", "house 2 / up 7 / tell 1 0 0 / best #", BAD, outside(2));
         refused("30: no BILL is UP", "house 2 / draft 7 / report 0 / best 0", STATE);
         refused("30: no BILL is UP any more", "house 2 / up 7 / act 0 0 0 0 / vote / best 0", STATE);
-        refused("30: BAD ahead of STATE", "house 2 / best #", BAD, Edges.outside(2));
+        refused("30: BAD ahead of STATE", "house 2 / best #", BAD, outside(2));
         refused("30: none TOLD", "house 1 / up 7 / best 0", 0);
         refused("30: one TOLD", "house 1 / up 7 / tell 1 0 0 / best 0", 0);
         refused("30: of like ones the lesser number", "house 1 / up 7 8 / tell 1 0 0 / tell 1 1 0 / best 0", order(1, 0));
         refused("30: of like ones the lesser number, five TOLD", "house 1 / up 7 / 5*tell 1 0 0 / best 0", order(4, 3, 2, 1, 0));
+        edge("30: of like ones the lesser number, neither the first nor the last found",
+            "house 1 / up 1 2 / like 0 1 -1 / like 0 4 2 / tell 3 0 4 / tell 1 1 0 / tell 1 0 0 / best 0", order(0, 2, 1));
         edge("30: the only one of its worth", "house 2 / up 7 / asks 1 / like 0 8 2 / like 0 9 1 / tell 3 0 9 / tell 3 0 8 / best 0", order(0, 1));
         edge("30: the greatest worth below 0", "house 1 / up 7 / ask 0 1 / like 0 8 -2 / like 0 9 -5 / tell 3 0 9 / tell 3 0 8 / best 0", order(0, 1));
         edge("30: the greatest worth, of the greater number", "house 2 / up 7 / asks 1 / like 0 9 1 / tell 3 0 8 / tell 3 0 9 / best 0", order(0, 1));
@@ -167,7 +163,7 @@ public final class ForeseenEdgesTest {
         edge(sentence, bills + "confer 0 1", words.length);
         for (int i = 0; i < words.length; i++) edge(sentence + ": " + i, bills + "conferred 0 1 " + i, words[i]);
         for (int i = 0; i < words.length; i++) edge(sentence + ": " + i + ", the other way", bills + "conferred 1 0 " + i, words[i]);
-        refused(sentence + ": there is no more", bills + "conferred 0 1 #", NONE, Edges.outside(words.length));
+        refused(sentence + ": there is no more", bills + "conferred 0 1 #", NONE, outside(words.length));
     }
 
     static void confer() {
@@ -184,13 +180,17 @@ public final class ForeseenEdgesTest {
         conferred("32: of like long ones, the next place", "5 9 1", "5 1 9", 5, 1);
         conferred("32: of like long ones, the first place rules", "2 60 1 9", "1 9 2 60", 1, 9);
         conferred("32: of like long ones, each place", "9 1 8 2 7 3", "1 9 2 8 3 7", 1, 2, 3);
+        conferred("31: one WORD more than once in one of them", "1 2", "1 2 1", 1, 2);
+        conferred("31: one WORD more than once in one of them", "3 1", "3 1 1", 3, 1);
+        conferred("31: one WORD more than once in one of them", "2 2 3", "2 3", 2, 3);
+        conferred("31: one WORD more than once in one of them", "3 2 2", "3 2", 3, 2);
         conferred("32: WORDS 1 and 60", "60 1 60", "60 60 1", 60, 1);
         String bills = "draft 1 2 / draft 2 1 / ";
-        refused("31: no such BILL", bills + "confer 0 #", BAD, Edges.outside(2));
-        refused("31: no such BILL", bills + "confer # 0", BAD, Edges.outside(2));
+        refused("31: no such BILL", bills + "confer 0 #", BAD, outside(2));
+        refused("31: no such BILL", bills + "confer # 0", BAD, outside(2));
         refused("31: a = b", bills + "confer # #", BAD, "0", "1");
-        refused("32: no such BILL", bills + "conferred 0 # 0", BAD, Edges.outside(2));
-        refused("32: no such BILL", bills + "conferred # 0 0", BAD, Edges.outside(2));
+        refused("32: no such BILL", bills + "conferred 0 # 0", BAD, outside(2));
+        refused("32: no such BILL", bills + "conferred # 0 0", BAD, outside(2));
         refused("32: a = b", bills + "conferred # # 0", BAD, "0", "1");
         refused("32: BAD, also if there is no such WORD", bills + "conferred # 2", BAD, "0 2", "2 0", "1 1");
         edge("31: BILLS that ended, too", "house 1 / up 7 / act 0 0 0 0 / vote / draft 7 / confer 0 1", 1);
@@ -198,7 +198,7 @@ public final class ForeseenEdgesTest {
     }
 
     static void count() {
-        refused("33: no such what", "house 2 / count #", BAD, Edges.outside(12));
+        refused("33: no such what", "house 2 / count #", BAD, outside(12));
         edge("33: 0 MEMBERS, at most", "16*member 0 / count 0", 15);
         edge("33: 1 that are THERE", "15*member 0 / comes 14 false / count 1", 14);
         edge("33: 2 BILLS, at most", "9*bill / count 2", 8);
@@ -224,6 +224,6 @@ public final class ForeseenEdgesTest {
         best();
         confer();
         count();
-        Edges.end("ForeseenEdgesTest");
+        end("ForeseenEdgesTest");
     }
 }

@@ -1,24 +1,15 @@
 /** The edges of promises 34 to 37: TRAYS, and MOTIONS taken for ones of a KIND. */
-public final class HostEdgesTest {
-    static final int NONE = Edges.NONE, BAD = Edges.BAD;
-
-    static void edge(String sentence, String calls, long want) { Edges.edge(sentence, calls, want); }
-    static void edges(String sentence, String calls, long want, String... values) { Edges.edges(sentence, calls, want, values); }
-    static void refused(String sentence, String calls, long want, String... values) {
-        if (values.length == 0) Edges.refused(sentence, calls, want);
-        else Edges.refused(sentence, calls, want, values);
-    }
-
+public final class HostEdgesTest extends Edges {
     static void tray() {
         edges("34: TRAYS 0 .. 3", "tray # 5", 1, "0", "1", "2", "3");
         edges("34: a row of n bytes", "tray 0 #", 1, "0", "1", "40");
         edge("34: NONE", "tray 0 -1", 1);
-        refused("34: no such TRAY", "house 1 / tray 0 4 / tray # 4", BAD, Edges.outside(4));
+        refused("34: no such TRAY", "house 1 / tray 0 4 / tray # 4", BAD, outside(4));
         refused("34: n above 40", "house 1 / tray 0 4 / tray 0 #", BAD, "41", "high");
         refused("34: n below -1", "house 1 / tray 0 4 / tray 0 #", -14, "-2", "low");
         refused("34: n above 40, of one that is missing", "tray 1 #", BAD, "41", "high");
         refused("34: n below -1, of one that is missing", "tray 1 #", -14, "-2", "low");
-        refused("34: BAD ahead of -14", "tray # -2", BAD, Edges.outside(4));
+        refused("34: BAD ahead of -14", "tray # -2", BAD, outside(4));
         edge("34: it is missing", "tray 0 5 / tray 0 -1 / cell 0 0 0", -11);
         edge("34: it was missing and is", "tray 0 -1 / cell 0 0 0", -11);
         edge("34: a row of 0 bytes is not missing", "tray 0 0 / cell 0 0 0", -12);
@@ -32,12 +23,12 @@ public final class HostEdgesTest {
     static void cell() {
         edge("35: the first byte", "tray 0 1 / cell 0 0 5", 1);
         edge("35: the last byte", "tray 0 40 / cell 0 39 5", 1);
-        refused("35: no such TRAY", "tray 0 4 / cell # 0 5", BAD, Edges.outside(4));
+        refused("35: no such TRAY", "tray 0 4 / cell # 0 5", BAD, outside(4));
         refused("35: it is missing", "tray 0 4 / cell 1 # 5", -11, "0", "-1", "40");
         refused("35: it is missing again", "tray 0 4 / tray 0 -1 / cell 0 0 5", -11);
-        refused("35: a place outside", "house 1 / tray 0 4 / cell 0 # 5", -12, Edges.outside(4));
-        refused("35: a place outside of 40", "house 1 / tray 0 40 / cell 0 # 5", -12, Edges.outside(40));
-        refused("35: a place outside of 0", "tray 0 0 / cell 0 # 5", -12, Edges.outside(0));
+        refused("35: a place outside", "house 1 / tray 0 4 / cell 0 # 5", -12, outside(4));
+        refused("35: a place outside of 40", "house 1 / tray 0 40 / cell 0 # 5", -12, outside(40));
+        refused("35: a place outside of 0", "tray 0 0 / cell 0 # 5", -12, outside(0));
         String made = "house 1 / up 7 8 / act 0 0 0 0 / tray 0 4 / cell 0 0 2 / cell 0 3 # / made 0 0 / motion 1 3";
         edges("35: its lowest 8 bits", made, 5, "5", "261", "-251", "65541");
         edges("35: its lowest 8 bits", made.replace(" / motion 1 3", ""), BAD, "255", "-1", "256", "low", "high", "61", "-195");
@@ -53,7 +44,7 @@ public final class HostEdgesTest {
         edge("36: the fourth is the WORD", up + "made 0 1 / motion 1 3", 60);
         edge("36: it takes a MINUTE", up + "made 0 1 / count 7", 2);
         edge("36: the last four of 40", "house 1 / tray 0 40 / cell 0 36 6 / made 0 36", 1);
-        refused("36: no such TRAY", up + "made # 0", BAD, Edges.outside(4));
+        refused("36: no such TRAY", up + "made # 0", BAD, outside(4));
         refused("36: it is missing", up + "made 1 #", -11, "0", "-1", "40");
         refused("36: from a place outside", up + "made 0 #", -12, "low", "-1", "2", "3", "4", "5", "40", "2147483644", "high");
         refused("36: from a place outside of 40", "house 1 / tray 0 40 / made 0 #", -12, "37", "38", "39", "40");
@@ -85,12 +76,12 @@ public final class HostEdgesTest {
         }
         edges("37: RULE for RULE, and for MOTION", "house 3 / act 6 2 0 0 / taken 0 #", 2, "6", "0");
         refused("37: RULE for another one", "house 3 / act 6 2 0 0 / taken 0 #", -13, "1", "2", "3", "4", "5");
-        refused("37: no such KIND", six + "taken 0 #", BAD, Edges.outside(7));
-        refused("37: no such MOTION", six + "taken # 0", -11, Edges.outside(6));
-        refused("37: no such MOTION: THE PILE is empty", "house 1 / taken # 0", -11, Edges.outside(0));
-        refused("37: no such MOTION: THE PILE is full", ActsEdgesTest.EIGHT + "taken # 0", -11, Edges.outside(8));
+        refused("37: no such KIND", six + "taken 0 #", BAD, outside(7));
+        refused("37: no such MOTION", six + "taken # 0", -11, outside(6));
+        refused("37: no such MOTION: THE PILE is empty", "house 1 / taken # 0", -11, outside(0));
+        refused("37: no such MOTION: THE PILE is full", ActsEdgesTest.EIGHT + "taken # 0", -11, outside(8));
         edge("37: the 8th", ActsEdgesTest.EIGHT + "taken 7 4", 0);
-        refused("37: BAD ahead of -11", "house 1 / taken 0 #", BAD, Edges.outside(7));
+        refused("37: BAD ahead of -11", "house 1 / taken 0 #", BAD, outside(7));
         edge("37: one that is GONE, too", "house 3 / rule rank party;may 1;pass 1;quorum 1; / up 7 / act 0 0 0 0 / act 2 1 0 9 / act 1 2 0 0 / vote / taken 1 1", 1);
         refused("37: one that ended is none such", "house 1 / act 6 0 0 0 / vote / taken 0 6", -11);
     }
@@ -100,6 +91,6 @@ public final class HostEdgesTest {
         cell();
         made();
         taken();
-        Edges.end("HostEdgesTest");
+        end("HostEdgesTest");
     }
 }

@@ -1,15 +1,5 @@
 /** The edges of promises 1 to 16, and of "Terms" where it tells of MEMBERS, BILLS and THE CALENDAR. */
-public final class MembersAndBillsEdgesTest {
-    static final int NONE = Edges.NONE, BAD = Edges.BAD, STATE = Edges.STATE, FULL = Edges.FULL;
-    static final long NO = Edges.NO;
-
-    static void edge(String sentence, String calls, long want) { Edges.edge(sentence, calls, want); }
-    static void edges(String sentence, String calls, long want, String... values) { Edges.edges(sentence, calls, want, values); }
-    static void refused(String sentence, String calls, long want, String... values) {
-        if (values.length == 0) Edges.refused(sentence, calls, want);
-        else Edges.refused(sentence, calls, want, values);
-    }
-
+public final class MembersAndBillsEdgesTest extends Edges {
     static void newObject() {
         edges("1: no MEMBERS, no BILLS, no MOTIONS, no bytes, DAY 0, THE MINUTE 0, none TOLD, none ON THE CALENDAR",
             "count #", 0, "0", "1", "2", "4", "5", "6", "7", "10", "11");
@@ -25,11 +15,11 @@ public final class MembersAndBillsEdgesTest {
 
     static void member() {
         edges("2: a PARTY is 0 .. 3", "member #", 0, "0", "3");
-        refused("2: no such PARTY", "house 2 / member #", BAD, Edges.outside(4));
+        refused("2: no such PARTY", "house 2 / member #", BAD, outside(4));
         edge("2: its number", "house 2 / member 3", 2);
         edge("Terms: the 15th MEMBER has room", "15*member 0", 14);
         refused("Terms: MEMBERS, 15 at most", "16*member 0", FULL);
-        refused("2: BAD ahead of FULL", "15*member 0 / member #", BAD, Edges.outside(4));
+        refused("2: BAD ahead of FULL", "15*member 0 / member #", BAD, outside(4));
         edge("1: a MEMBER has its PARTY", "member 3 / memberTold 0 0", 3);
         edge("1: the 15th has its PARTY", "14*member 0 / member 2 / memberTold 14 0", 2);
         edge("1: a MEMBER is THERE at first", "member 0 / memberTold 0 1", 1);
@@ -46,8 +36,8 @@ public final class MembersAndBillsEdgesTest {
         edge("3: of each MEMBER", "house 2 / like 0 1 3 / like 1 1 0", 0);
         refused("3: no such like", "member 0 / like 0 7 4 / like 0 7 #", -100, "low", "-10", "10", "high");
         refused("3: no such WORD", "member 0 / like 0 1 4 / like 0 60 4 / like 0 # 1", -100, "low", "-1", "0", "61", "high");
-        refused("3: no such MEMBER", "house 3 / like # 7 1", -100, Edges.outside(3));
-        refused("3: no such MEMBER", "15*member 0 / like # 7 1", -100, Edges.outside(15));
+        refused("3: no such MEMBER", "house 3 / like # 7 1", -100, outside(3));
+        refused("3: no such MEMBER", "15*member 0 / like # 7 1", -100, outside(15));
     }
 
     static void comes() {
@@ -57,8 +47,8 @@ public final class MembersAndBillsEdgesTest {
         edge("4: it was otherwise", "member 0 / comes 0 false / comes 0 true", 1);
         edge("4: how many are THERE", "house 3 / comes 2 false / count 1", 2);
         edge("4: nobody is THERE", "house 1 / comes 0 false / count 1", 0);
-        refused("4: no such MEMBER", "house 2 / comes # false", BAD, Edges.outside(2));
-        refused("4: no such MEMBER", "house 2 / comes 0 false / comes 1 false / comes # true", BAD, Edges.outside(2));
+        refused("4: no such MEMBER", "house 2 / comes # false", BAD, outside(2));
+        refused("4: no such MEMBER", "house 2 / comes 0 false / comes 1 false / comes # true", BAD, outside(2));
     }
 
     static void pair() {
@@ -66,9 +56,9 @@ public final class MembersAndBillsEdgesTest {
         edge("5: the first and the last", "15*member 0 / pair 0 14 / memberTold 14 2", 0);
         refused("5: a = b", "house 2 / pair # #", BAD, "0", "1");
         refused("5: a = b, BAD ahead of STATE", "house 2 / pair 0 1 / pair # #", BAD, "0", "1");
-        refused("5: no such MEMBER", "house 2 / pair 0 #", BAD, Edges.outside(2));
-        refused("5: no such MEMBER", "house 2 / pair # 0", BAD, Edges.outside(2));
-        refused("5: no such MEMBER, BAD ahead of STATE", "house 2 / pair 0 1 / pair 0 #", BAD, Edges.outside(2));
+        refused("5: no such MEMBER", "house 2 / pair 0 #", BAD, outside(2));
+        refused("5: no such MEMBER", "house 2 / pair # 0", BAD, outside(2));
+        refused("5: no such MEMBER, BAD ahead of STATE", "house 2 / pair 0 1 / pair 0 #", BAD, outside(2));
         refused("5: the first one is in a PAIR", "house 3 / pair 0 1 / pair 0 2", STATE);
         refused("5: the other one is in a PAIR", "house 3 / pair 0 1 / pair 2 1", STATE);
         refused("5: both are in this PAIR", "house 3 / pair 0 1 / pair 1 0", STATE);
@@ -82,7 +72,7 @@ public final class MembersAndBillsEdgesTest {
         edges("6: it ends for both", "house 3 / pair 2 0 / part 2 / memberTold # 2", NONE, "0", "2");
         refused("6: it is in none", "house 3 / pair 2 0 / part 1", STATE);
         refused("6: it is in none any more", "house 2 / pair 0 1 / part 0 / part #", STATE, "0", "1");
-        refused("6: no such MEMBER", "house 2 / pair 0 1 / part #", BAD, Edges.outside(2));
+        refused("6: no such MEMBER", "house 2 / pair 0 1 / part #", BAD, outside(2));
     }
 
     static void ask() {
@@ -90,13 +80,13 @@ public final class MembersAndBillsEdgesTest {
         edge("7: how it was", "member 0 / ask 0 2 / ask 0 0", 2);
         edge("7: how it was", "member 0 / ask 0 1 / ask 0 2", 1);
         edge("7: how it was", "member 0 / ask 0 1 / ask 0 0 / ask 0 1", 0);
-        refused("7: no such how", "member 0 / ask 0 1 / ask 0 #", BAD, Edges.outside(3));
-        refused("7: no such MEMBER", "house 2 / ask # 1", BAD, Edges.outside(2));
+        refused("7: no such how", "member 0 / ask 0 1 / ask 0 #", BAD, outside(3));
+        refused("7: no such MEMBER", "house 2 / ask # 1", BAD, outside(2));
     }
 
     static void memberTold() {
-        refused("8: no such MEMBER", "house 2 / memberTold # 0", BAD, Edges.outside(2));
-        refused("8: no such what", "house 2 / memberTold 0 #", BAD, Edges.outside(4));
+        refused("8: no such MEMBER", "house 2 / memberTold # 0", BAD, outside(2));
+        refused("8: no such what", "house 2 / memberTold 0 #", BAD, outside(4));
         edge("8: 0 PARTY", "house 3 / memberTold 2 0", 2);
         edge("8: 1 whether it is THERE", "house 3 / comes 2 false / memberTold 2 1", 0);
         edge("8: 2 the one with which it is in a PAIR", "house 3 / pair 2 1 / memberTold 2 2", 1);
@@ -118,8 +108,8 @@ public final class MembersAndBillsEdgesTest {
     static void section() {
         edges("Terms: WORDS are 1 .. 60", "bill / section 0 #", 1, "1", "60");
         refused("10: no such WORD", "draft 5 / section 0 #", BAD, "low", "-1", "0", "61", "high");
-        refused("10: no such BILL", "draft 5 / section # 7", BAD, Edges.outside(1));
-        refused("10: no such BILL", "8*bill / section # 7", BAD, Edges.outside(8));
+        refused("10: no such BILL", "draft 5 / section # 7", BAD, outside(1));
+        refused("10: no such BILL", "8*bill / section # 7", BAD, outside(8));
         edge("Terms: the 10th SECTION has room", "bill / 10*section 0 7", 10);
         edge("10: it comes behind all", "bill / 9*section 0 7 / section 0 8 / word 0 9", 8);
         refused("Terms: SECTIONS, 10 at most", "bill / 10*section 0 7 / section 0 8", FULL);
@@ -135,8 +125,8 @@ public final class MembersAndBillsEdgesTest {
     }
 
     static void billTold() {
-        refused("11: no such BILL", "draft 5 / billTold # 0", BAD, Edges.outside(1));
-        refused("11: no such what", "draft 5 / billTold 0 #", BAD, Edges.outside(4));
+        refused("11: no such BILL", "draft 5 / billTold # 0", BAD, outside(1));
+        refused("11: no such what", "draft 5 / billTold 0 #", BAD, outside(4));
         edge("11: 0 IN COMMITTEE", "bill / billTold 0 0", 0);
         edge("11: 0 ON THE CALENDAR", "bill / report 0 / billTold 0 0", 1);
         edge("11: 0 UP", "up / billTold 0 0", 2);
@@ -157,11 +147,11 @@ public final class MembersAndBillsEdgesTest {
         edge("12: the first", "draft 7 60 / word 0 0", 7);
         edge("12: the last", "draft 7 60 / word 0 1", 60);
         edge("12: the 10th", "draft 1 2 3 4 5 6 7 8 9 60 / word 0 9", 60);
-        refused("12: there is none such", "draft 7 60 / word 0 #", NONE, Edges.outside(2));
-        refused("12: there is none such in a full BILL", "draft 1 2 3 4 5 6 7 8 9 60 / word 0 #", NONE, Edges.outside(10));
+        refused("12: there is none such", "draft 7 60 / word 0 #", NONE, outside(2));
+        refused("12: there is none such in a full BILL", "draft 1 2 3 4 5 6 7 8 9 60 / word 0 #", NONE, outside(10));
         refused("12: there is none such in an empty BILL", "bill / word 0 0", NONE);
-        refused("12: no such BILL", "draft 7 / word # 0", BAD, Edges.outside(1));
-        refused("12: no such BILL, no such SECTION", "draft 7 / word # 1", BAD, Edges.outside(1));
+        refused("12: no such BILL", "draft 7 / word # 0", BAD, outside(1));
+        refused("12: no such BILL, no such SECTION", "draft 7 / word # 1", BAD, outside(1));
         edge("12: one that went is none such", "house 1 / up 7 8 / ask 0 1 / act 0 0 0 0 / act 1 0 0 0 / vote / word 0 1", NONE);
     }
 
@@ -174,8 +164,8 @@ public final class MembersAndBillsEdgesTest {
         edge("13: WORDS 1 and 60", "member 0 / like 0 1 4 / like 0 60 -1 / draft 1 60 60 / worth 0 0", 2);
         edge("13: another MEMBER's LIKES don't matter", "house 2 / like 1 7 9 / draft 7 / worth 0 0", 0);
         edge("13: of the 8th BILL to the 15th MEMBER", "15*member 0 / like 14 7 3 / 7*bill / draft 7 / worth 7 14", 3);
-        refused("13: no such BILL", "house 2 / draft 7 / worth # 0", NO, Edges.outside(1));
-        refused("13: no such MEMBER", "house 2 / draft 7 / worth 0 #", NO, Edges.outside(2));
+        refused("13: no such BILL", "house 2 / draft 7 / worth # 0", NO, outside(1));
+        refused("13: no such MEMBER", "house 2 / draft 7 / worth 0 #", NO, outside(2));
     }
 
     static void report() {
@@ -184,7 +174,7 @@ public final class MembersAndBillsEdgesTest {
         edge("14: the 8th", "8*bill / report 0 / report 1 / report 2 / report 3 / report 4 / report 5 / report 6 / report 7", 7);
         edge("14: its place, when one left", "3*bill / report 0 / report 1 / call / report 2", 1);
         edge("14: without SECTIONS, too", "bill / report 0 / billTold 0 0", 1);
-        refused("14: no such BILL", "bill / report #", BAD, Edges.outside(1));
+        refused("14: no such BILL", "bill / report #", BAD, outside(1));
         refused("14: it is ON THE CALENDAR", "bill / report 0 / report 0", STATE);
         refused("14: it is UP", "up 5 / report 0", STATE);
         refused("14: it is PASSED", "house 1 / up 5 / ask 0 1 / act 0 0 0 0 / vote / report 0", STATE);
@@ -208,10 +198,10 @@ public final class MembersAndBillsEdgesTest {
         edge("15: half of all MEMBERS as they are now", "house 2 / bill / sign 0 0 / member 0 / sign 0 1 / billTold 0 0", 1);
         edge("15: it comes behind all", "house 1 / 2*bill / report 1 / sign 0 0 / billTold 0 2", 1);
         edge("15: each BILL has its NAMES", "house 3 / 2*bill / sign 0 0 / sign 1 0", 1);
-        refused("15: no such BILL", "house 3 / bill / sign # 0", BAD, Edges.outside(1));
-        refused("15: no such MEMBER", "house 3 / bill / sign 0 #", BAD, Edges.outside(3));
+        refused("15: no such BILL", "house 3 / bill / sign # 0", BAD, outside(1));
+        refused("15: no such MEMBER", "house 3 / bill / sign 0 #", BAD, outside(3));
         refused("15: no such MEMBER of 15", "house 15 / bill / sign 0 #", BAD, "15", "16", "31", "32", "33");
-        refused("15: BAD ahead of STATE", "house 3 / up / sign 0 #", BAD, Edges.outside(3));
+        refused("15: BAD ahead of STATE", "house 3 / up / sign 0 #", BAD, outside(3));
         refused("15: it did", "house 3 / bill / sign 0 1 / sign 0 1", STATE);
         refused("15: a BILL that is ON THE CALENDAR", "house 3 / bill / report 0 / sign 0 1", STATE);
         refused("15: a BILL that came ON THE CALENDAR by NAMES", "house 3 / bill / sign 0 1 / sign 0 2 / sign 0 0", STATE);
@@ -253,6 +243,6 @@ public final class MembersAndBillsEdgesTest {
         report();
         sign();
         call();
-        Edges.end("MembersAndBillsEdgesTest");
+        end("MembersAndBillsEdgesTest");
     }
 }

@@ -1,16 +1,7 @@
 /** The edges of promises 17 to 19, and of "Terms" 3 where it tells of THE TAPE, TOKENS, FAULTS and what an E is. */
-public final class TextsEdgesTest {
-    static final int NONE = Edges.NONE, BAD = Edges.BAD, FULL = Edges.FULL;
-    static final long NO = Edges.NO;
+public final class TextsEdgesTest extends Edges {
     static final int LEAST = Integer.MIN_VALUE, MOST = Integer.MAX_VALUE;
     static final String REST = ";may 1;pass 1;quorum 1;";
-
-    static void edge(String sentence, String calls, long want) { Edges.edge(sentence, calls, want); }
-    static void edges(String sentence, String calls, long want, String... values) { Edges.edges(sentence, calls, want, values); }
-    static void refused(String sentence, String calls, long want, String... values) {
-        if (values.length == 0) Edges.refused(sentence, calls, want);
-        else Edges.refused(sentence, calls, want, values);
-    }
 
     static String blanks(int n) { return " ".repeat(n); }
 
@@ -62,6 +53,8 @@ public final class TextsEdgesTest {
         refused("18: FULL, also of an empty TAPE", seven + " / text", FULL);
         edge("18: FULL: THE TAPE stays", seven + " / write rank ? / text / count 5", 6);
         edge("18: FULL: more may be fed", seven + " / write rank ? / text / feed 1 0", 7);
+        String sum = "rank 1" + "+1".repeat(70);
+        edge("18: nothing is left of long FAULTS", ("read " + sum + " / ").repeat(6) + "read " + sum + REST + " / says 1 0 0 0 0 0", 71);
         edge("18: FAULTS take no room", "9*read rank / " + seven, 7);
     }
 
@@ -81,6 +74,15 @@ public final class TextsEdgesTest {
         fault("Terms: a WORD that is neither KEY nor NAME", "rank kinds" + REST, 5);
         fault("Terms: a WORD of 1 letter", "rank k" + REST, 5);
         fault("Terms: a WORD of 7 letters that is neither", "rank memberz" + REST, 5);
+        fault("Terms: a .. z: a WORD with a at its end", "rank kinda" + REST, 5);
+        fault("Terms: a .. z: a WORD with z at its end", "rank kindz" + REST, 5);
+        fault("Terms: a .. z: the byte ahead of a", "rank kind`" + REST, 9);
+        fault("Terms: a .. z: the byte behind z", "rank kind{" + REST, 9);
+        fault("Terms: 0 .. 9: the byte ahead of 0", "rank 1/" + REST, 6);
+        fault("Terms: 0 .. 9: the byte behind 9", "rank 1:" + REST, 6);
+        for (String ahead : new String[]{"(", "-", "not ", "((1)", "1+", "1 and "}) {
+            for (String no : new String[]{"kin", "?", "10000"}) fault("Terms: no TOKEN behind " + ahead, "rank " + ahead + no + " 1))" + REST, 5 + ahead.length());
+        }
         stands("Terms: a WORD of 7 letters", "rank members" + REST);
         fault("Terms: 7 letters at most, the 8th begins another", "rank memberss" + REST, 12);
         stands("Terms: 7 letters at most, the 8th begins another", "rank membersor 1" + REST);
@@ -262,14 +264,14 @@ public final class TextsEdgesTest {
         edge("19: part 2, no yes and no", text + "says 1 2 6 3 0 0", 0);
         edge("19: part 3, the greatest PARTY", text + "says 1 3 6 3 15 15", 3);
         edge("19: the 8th TEXT", "6*read rank 1" + REST + " / read rank 77" + REST + " / says 7 0 0 0 0 0", 77);
-        refused("19: no such TEXT", text + "says # 0 0 0 0 0", NO, Edges.outside(2));
-        refused("19: no such TEXT, 8 of them", "7*read rank 1" + REST + " / says # 0 0 0 0 0", NO, Edges.outside(8));
+        refused("19: no such TEXT", text + "says # 0 0 0 0 0", NO, outside(2));
+        refused("19: no such TEXT, 8 of them", "7*read rank 1" + REST + " / says # 0 0 0 0 0", NO, outside(8));
         refused("19: no such TEXT, by a FAULT", "read rank 1 / says 1 0 0 0 0 0", NO);
-        refused("19: no such part", text + "says 1 # 0 0 0 0", NO, Edges.outside(4));
-        refused("19: no such KIND", text + "says 1 0 # 0 0 0", NO, Edges.outside(7));
-        refused("19: no such PARTY", text + "says 1 0 0 # 0 0", NO, Edges.outside(4));
-        refused("19: no such yes", text + "says 1 0 0 0 # 0", NO, Edges.outside(16));
-        refused("19: no such no", text + "says 1 0 0 0 0 #", NO, Edges.outside(16));
+        refused("19: no such part", text + "says 1 # 0 0 0 0", NO, outside(4));
+        refused("19: no such KIND", text + "says 1 0 # 0 0 0", NO, outside(7));
+        refused("19: no such PARTY", text + "says 1 0 0 # 0 0", NO, outside(4));
+        refused("19: no such yes", text + "says 1 0 0 0 # 0", NO, outside(16));
+        refused("19: no such no", text + "says 1 0 0 0 0 #", NO, outside(16));
         edge("19: a LEAST int is no NO", "read rank 8192*8192*32" + REST + " / says 1 0 0 0 0 0", LEAST);
         edge("19: says() takes no MINUTE", text + "says 1 0 0 0 0 0 / count 7", 0);
     }
@@ -284,6 +286,6 @@ public final class TextsEdgesTest {
         wraps();
         names();
         says();
-        Edges.end("TextsEdgesTest");
+        end("TextsEdgesTest");
     }
 }
