@@ -146,6 +146,8 @@ public final class ForeseenEdgesTest extends Edges {
         refused("30: of like ones the lesser number, five TOLD", "house 1 / up 7 / 5*tell 1 0 0 / best 0", order(4, 3, 2, 1, 0));
         edge("30: of like ones the lesser number, neither the first nor the last found",
             "house 1 / up 1 2 / like 0 1 -1 / like 0 4 2 / tell 3 0 4 / tell 1 1 0 / tell 1 0 0 / best 0", order(0, 2, 1));
+        edge("30: an ORDER has each just once", "house 1 / up 7 / like 0 7 1 / like 0 9 5 / tell 1 0 0 / tell 2 0 9 / best 0", order(1, 0));
+        edge("30: an ORDER has each just once", "house 1 / up 7 / like 0 7 1 / like 0 9 5 / tell 2 0 9 / tell 1 0 0 / tell 2 0 9 / best 0", order(2, 1, 0));
         edge("30: the only one of its worth", "house 2 / up 7 / asks 1 / like 0 8 2 / like 0 9 1 / tell 3 0 9 / tell 3 0 8 / best 0", order(0, 1));
         edge("30: the greatest worth below 0", "house 1 / up 7 / ask 0 1 / like 0 8 -2 / like 0 9 -5 / tell 3 0 9 / tell 3 0 8 / best 0", order(0, 1));
         edge("30: the greatest worth, of the greater number", "house 2 / up 7 / asks 1 / like 0 9 1 / tell 3 0 8 / tell 3 0 9 / best 0", order(0, 1));

@@ -98,8 +98,26 @@ public final class TextsEdgesTest extends Edges {
         fault("Terms: a NUMBER of 12 digits", "rank 123456789012" + REST, 5);
         fault("Terms: a NUMBER that is too long, behind others", "rank 1 + 10000" + REST, 9);
         fault("Terms: a blank ends a NUMBER", "rank 99 99" + REST, 8);
+        for (String name : "kind depth minute party there members yes no".split(" ")) nearly(name, "rank ~" + REST);
+        nearly("rank", "~ 1" + REST);
+        nearly("may", "rank 1;~ 1;pass 1;quorum 1;");
+        nearly("pass", "rank 1;may 1;~ 1;quorum 1;");
+        nearly("quorum", "rank 1;may 1;pass 1;~ 1;");
+        nearly("or", "rank 1 ~ 1" + REST);
+        nearly("and", "rank 1 ~ 1" + REST);
+        nearly("not", "rank ~ 1" + REST);
         for (String key : "rank may pass quorum or and".split(" ")) fault("Terms: a KEY is no NAME: " + key, "rank " + key + REST, 5);
         for (String name : "kind depth minute party there members yes no".split(" ")) stands("Terms: a NAME: " + name, "rank " + name + REST);
+    }
+
+    /** Each letter of a KEY or NAME changed, or left out, makes a WORD that is none; ~ has its place in the text. */
+    static void nearly(String known, String text) {
+        for (int i = 0; i < known.length(); i++) {
+            String ahead = known.substring(0, i), behind = known.substring(i + 1);
+            fault("Terms: nearly " + known, text.replace("~", ahead + "j" + behind), text.indexOf('~'));
+            // not without its last letter is no, a NAME
+            if (!behind.isEmpty()) fault("Terms: nearly " + known, text.replace("~", ahead + behind), text.indexOf('~'));
+        }
     }
 
     static void grammar() {
@@ -111,6 +129,7 @@ public final class TextsEdgesTest extends Edges {
         fault("Terms: it ends too early, in a (", "rank (1", 7);
         fault("Terms: more behind the end", "rank 1" + REST + ";", 29);
         fault("Terms: more behind the end", "rank 1" + REST + " rank", 30);
+        for (String more : "1 kind ( ) + - * < = or not may".split(" ")) fault("Terms: more behind the end: " + more, "rank 1" + REST + more, 29);
         fault("Terms: more behind the end that is no TOKEN", "rank 1" + REST + "\n?", 30);
         fault("Terms: the first KEY", "may 1;", 0);
         fault("Terms: the first KEY, a NAME there", "kind 1;", 0);
