@@ -192,9 +192,85 @@ public final class ModelTest {
         }
     }
 
+    // ---- runs that stay on the floor: high piles, full BILLS, DAYS near their last MINUTE, many TOLD
+
+    static final String[] RANKS = {"kind", "4 * kind + party", "(kind + party) * (1 - 2 * (depth = 2 or depth = 4 or depth = 6))", "minute * (kind - 2) + party"};
+    static final String[] PASSES = {"no < yes", "1", "yes + depth = 3", "95 < minute or no < yes", "kind * yes < no + party + 1", "not (there < yes + yes + no)"};
+
+    static void floorRun(int seed) {
+        state = seed * 104729L + 777;
+        for (int i = 0; i < 5; i++) draw(2);
+        HouseCalendar x = new HouseCalendar();
+        HouseModel y = new HouseModel();
+        StringBuilder log = new StringBuilder("floor run " + seed + "\n");
+        int words = 3 + draw(10), size = 1 + draw(15);
+        for (int i = 0; i < size; i++) { int p = draw(4); same("member " + p, x.member(p), y.member(p), log); }
+        for (int i = 0; i < Math.min(size * 4, 40); i++) {
+            int m = draw(size), w = 1 + draw(words), l = draw(19) - 9;
+            same("like " + m + " " + w + " " + l, x.like(m, w, l), y.like(m, w, l), log);
+        }
+        same("bill", x.bill(), y.bill(), log);
+        for (int j = draw(2) == 0 ? 10 : draw(11); j > 0; j--) { int w = 1 + draw(words); same("section 0 " + w, x.section(0, w), y.section(0, w), log); }
+        same("report", x.report(0), y.report(0), log);
+        floorRule(x, y, size, log);
+        for (int n = draw(3) == 0 ? 44 + draw(6) : 0; n > 0; n--) {
+            same("act 6", x.act(6, 0, 0, y.rule), y.act(6, 0, 0, y.rule), log);
+            same("vote", x.vote(), y.vote(), log);
+        }
+        same("call", x.call(), y.call(), log);
+        same("act 0", x.act(0, 0, 0, 0), y.act(0, 0, 0, 0), log);
+        for (int c = 0; c < 150 && wrong == 0; c++) floorStep(x, y, words, log);
+    }
+
+    static void floorRule(HouseCalendar x, HouseModel y, int size, StringBuilder log) {
+        feed(x, y, "rank " + RANKS[draw(RANKS.length)] + "; may 1; pass " + PASSES[draw(PASSES.length)] + "; quorum 1;", log);
+        same("text", x.text(), y.text(), log);
+        for (int i = 0; i < size; i++) same("ask", x.ask(i, 1), y.ask(i, 1), log);
+        same("act 6", x.act(6, 0, 0, 1), y.act(6, 0, 0, 1), log);
+        same("vote", x.vote(), y.vote(), log);
+        for (int i = 0; i < size; i++) { int how = draw(4) == 0 ? 1 + draw(2) : 0; same("ask", x.ask(i, how), y.ask(i, how), log); }
+    }
+
+    static void floorStep(HouseCalendar x, HouseModel y, int words, StringBuilder log) {
+        int size = y.people.size();
+        int m = draw(size), k = 1 + draw(draw(20) == 0 ? 5 : 3), place = near(size(y) + 1), w = 1 + draw(words);
+        switch (draw(12)) {
+            case 0: case 1: case 2: case 3: case 4: {
+                if (y.pile.isEmpty()) k = 0;
+                String args = " " + k + " " + m + " " + place + " " + w;
+                same("why" + args, x.why(k, m, place, w), y.why(k, m, place, w), log);
+                same("act" + args, x.act(k, m, place, w), y.act(k, m, place, w), log);
+                break;
+            }
+            case 5: case 6:
+                if (draw(8) > y.pile.size()) break;
+                same("would " + m, x.would(m), y.would(m), log);
+                same("vote", x.vote(), y.vote(), log);
+                for (int i = 0; i < 4; i++) same("voted " + i, x.voted(i), y.voted(i), log);
+                for (int i = 0; i < 10; i++) same("word 0 " + i, x.word(0, i), y.word(0, i), log);
+                break;
+            case 7: case 8: same("tell " + k + " " + place + " " + w, x.tell(k, place, w), y.tell(k, place, w), log); break;
+            case 9: {
+                if (y.told.size() < 3 && draw(3) > 0) break;
+                same("best " + m, x.best(m), y.best(m), log);
+                int order = Math.max(y.best(m), 0);
+                same("foresee " + order + " " + m, x.foresee(order, m), y.foresee(order, m), log);
+                break;
+            }
+            case 10: if (draw(6) == 0) same("day", x.day(), y.day(), log); else if (draw(6) == 0) same("yield", x.yield(), y.yield_(), log); break;
+            default:
+                if (draw(3) == 0) same("comes " + m, x.comes(m, w % 2 == 0), y.comes(m, w % 2 == 0), log);
+                for (int j = 0; j < y.pile.size(); j++) for (int v = 0; v < 5; v++) same("motion " + j + " " + v, x.motion(j, v), y.motion(j, v), log);
+                break;
+        }
+    }
+
     public static void main(String[] args) {
         int runs = args.length > 0 ? Integer.parseInt(args[0]) : 1500;
-        for (int seed = 0; seed < runs && wrong == 0; seed++) run(seed);
+        for (int seed = 0; seed < runs && wrong == 0; seed++) {
+            run(seed);
+            if (seed % 5 == 0 && wrong == 0) floorRun(seed);
+        }
         if (args.length > 1) seen.forEach((k, v) -> System.out.println(k + " " + v));
         System.out.println("ModelTest: " + calls + " calls, " + wrong + " wrong");
         if (wrong != 0) System.exit(1);
