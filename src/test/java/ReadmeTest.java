@@ -1,8 +1,7 @@
-import java.net.URI;
+import java.net.*;
 import java.nio.file.*;
 import java.util.*;
 import java.util.regex.*;
-import javax.tools.*;
 
 /** README.md's Java, compiled and run: each call there answers what stands behind it. */
 public final class ReadmeTest {
@@ -45,24 +44,24 @@ public final class ReadmeTest {
         return m.group(1) + m.group(2) + "; " + due + name + ", " + m.group(3) + "L);";
     }
 
-    private static boolean compile(String source, Path into) {
-        JavaFileObject file = new SimpleJavaFileObject(URI.create("string:///Page.java"), JavaFileObject.Kind.SOURCE) {
-            @Override public CharSequence getCharContent(boolean ignore) { return source; }
-        };
-        List<String> options = List.of("-d", into.toString(), "-cp", System.getProperty("java.class.path"));
-        return ToolProvider.getSystemJavaCompiler().getTask(null, null, null, options, null, List.of(file)).call();
+    private static boolean compile(String source, Path into) throws Exception {
+        Path file = into.resolve("Page.java");
+        Files.writeString(file, source);
+        String[] call = {"javac", "-encoding", "UTF-8", "-d", into.toString(), "-cp", System.getProperty("java.class.path"), file.toString()};
+        return new ProcessBuilder(call).inheritIO().start().waitFor() == 0;
+    }
+
+    private static void run(Path compiled) throws Exception {
+        try (URLClassLoader loader = new URLClassLoader(new URL[]{compiled.toUri().toURL()})) {
+            loader.loadClass("Page").getMethod("run").invoke(null);
+        }
     }
 
     public static void main(String[] args) throws Exception {
         Path into = Files.createTempDirectory("page");
         boolean compiled = compile(source(Files.readAllLines(Path.of("README.md"))), into);
-        if (compiled) {
-            try (var loader = new java.net.URLClassLoader(new java.net.URL[]{into.toUri().toURL()})) {
-                loader.loadClass("Page").getMethod("run").invoke(null);
-            }
-        }
-        Files.deleteIfExists(into.resolve("Page.class"));
-        Files.deleteIfExists(into);
+        if (compiled) run(into);
+        for (String name : new String[]{"Page.java", "Page.class", ""}) Files.deleteIfExists(into.resolve(name));
         System.out.println("ReadmeTest: " + calls + " calls, " + wrong + " wrong");
         if (!compiled || wrong != 0 || calls == 0) System.exit(1);
     }
